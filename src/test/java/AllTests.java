@@ -1,5 +1,18 @@
 public final class AllTests {
+    private AllTests() {
+    }
+
     public static void main(String[] arguments) {
-        System.out.println((new SongRefinery().filterCount() == 0 ? "1 passed, 0" : "0 passed, 1") + " failed");
+        FaceTests.all();
+        FilterTests.all();
+        SongTests.all();
+        TankTests.all();
+        CommandTests.all();
+        LineTests.all();
+        UndoTests.all();
+        ModelTests.all();
+        if (!Check.tell()) {
+            System.exit(1);
+        }
     }
 }
