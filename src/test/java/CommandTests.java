@@ -113,6 +113,11 @@ final class CommandTests {
         Look.type(x, "our 0");
         Check.throwing(ISE, "run", x::run);
         Check.due("after a failure", x.append('f'), 1);
+        SongRefinery y = new SongRefinery();
+        Look.run(y, "gain 155;flip");
+        Look.run(y, "gain 15");
+        Check.due("nothing of a longer text before", Look.chain(y), "g155>f>g15");
+        Check.due("nothing of its commands", error(y, "flip;flip;"), 10);
         Check.due("going on", Look.run(x, "lip"), 1);
     }
 

@@ -251,6 +251,16 @@ final class SongTests {
         Check.due("peak of a negative sample", x.peak(0), 70);
         x.addFilter('g', 0);
         Check.due("peak of silence", x.peak(0), 0);
+        SongRefinery y = new SongRefinery();
+        y.addNote(0, 2, 90, 20);
+        y.addNote(1, 2, 50, 1);
+        y.addNote(1, 2, 20, 3);
+        Check.due("peak of the longer song", y.peak(0), 90);
+        Check.due("peak at the first sample of the shorter song", y.peak(1), 50);
+        Check.due("energy of the longer song", y.energy(0), 162000);
+        Check.due("energy of the shorter song", y.energy(1), 3700);
+        Check.due("meanLevel of the longer song", y.meanLevel(0), 90.0);
+        Check.due("meanLevel of the shorter song", y.meanLevel(1), 27.5);
     }
 
     private static void energy() {
@@ -270,6 +280,22 @@ final class SongTests {
         Check.due("no notes", x.signChanges(0), 0);
         x.addNote(0, 4, 3, 9);
         Check.due("two of each sign", x.signChanges(0), 4);
+        x.addFilter('f', 0);
+        Check.due("beginning below 0", x.signChanges(0), 4);
+        x.removeFilter(0);
+        x.addNote(2, 2, 9, 20);
+        x.addNote(3, 2, 9, 1);
+        x.addNote(3, 3, 9, 1);
+        x.addNote(3, 2, 9, 2);
+        Check.due("a long song", x.signChanges(2), 19);
+        Check.due("then a short one", x.signChanges(3), 1);
+        x.removeNote(3);
+        x.removeNote(3);
+        Check.due("then one of one sample", x.signChanges(3), 0);
+        x.addNote(3, 2, 9, 2);
+        x.removeNote(2);
+        x.addNote(2, 2, 7, 2);
+        Check.due("a change at the second sample", x.signChanges(2), 1);
         x.addFilter('m', 2);
         Check.due("zeros between", x.signChanges(0), 3);
         x.addFilter('d', 8);

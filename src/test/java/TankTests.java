@@ -166,6 +166,9 @@ final class TankTests {
         Check.due("behind those", Look.tank(x, 0), "6/6 20 60 50 10 40 30");
         Check.due("all", x.drain(0, 6), 60);
         Check.due("empty", Look.tank(x, 0), "0/6");
+        x.addFilter('g', 0);
+        x.pour(0);
+        Check.due("silent frames", x.drain(0, 6), 0);
     }
 
     private static void drainRefusals() {
@@ -286,6 +289,10 @@ final class TankTests {
         greedy.setTuning(1, 50);
         frames(greedy, 0, 10, 10, 90, 90);
         Check.due("quiet frames first", drops.of(greedy, 0), 2);
+        SongRefinery exact = withTanks(3);
+        exact.setTuning(0, 50);
+        frames(exact, 0, 49, 50, 51);
+        Check.due("as loud as the tuning", drops.of(exact, 0), 1);
     }
 
     private static void dropsFor() {
