@@ -10,6 +10,13 @@ public final class AllTests {
         CommandTests.all();
         LineTests.all();
         UndoTests.all();
+        FilterEdges.all();
+        SongEdges.all();
+        TankEdges.all();
+        CommandEdges.all();
+        LineEdges.all();
+        UndoEdges.all();
+        RefusalEdges.all();
         ModelTests.all();
         if (!Check.tell()) {
             System.exit(1);

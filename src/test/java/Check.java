@@ -1,5 +1,8 @@
 import java.util.ArrayList;
+import java.util.HashSet;
 import java.util.List;
+import java.util.NoSuchElementException;
+import java.util.Set;
 
 /** Counts tests and tells which fail; a test is a name and a body that may make several checks. */
 final class Check {
@@ -7,8 +10,15 @@ final class Check {
         void go() throws Exception;
     }
 
+    static final Class<IllegalArgumentException> IAE = IllegalArgumentException.class;
+    static final Class<IllegalStateException> ISE = IllegalStateException.class;
+    static final Class<IndexOutOfBoundsException> IOOBE = IndexOutOfBoundsException.class;
+    static final Class<NoSuchElementException> NSEE = NoSuchElementException.class;
+    static final Class<ArithmeticException> AE = ArithmeticException.class;
+
     private static int passed = 0;
     private static int failed = 0;
+    private static final Set<String> names = new HashSet<>();
     private static final List<String> wrong = new ArrayList<>();
 
     private Check() {
@@ -16,6 +26,9 @@ final class Check {
 
     static void test(String name, Body body) {
         wrong.clear();
+        if (!names.add(name)) {
+            wrong.add("another test has this name");
+        }
         try {
             body.go();
         } catch (Throwable thrown) {
@@ -71,6 +84,11 @@ final class Check {
             return;
         }
         wrong.add(call + " threw nothing, due is " + want.getName());
+    }
+
+    /** Numbers that are too small or too large for a range: its neighbours, and the farthest there are. */
+    static int[] outside(int least, int greatest) {
+        return new int[] {least - 1, greatest + 1, Integer.MIN_VALUE, Integer.MAX_VALUE};
     }
 
     /** Like throwing, and the call must leave all that can be asked as it was. */

@@ -5,14 +5,17 @@ final class Look {
 
     static String at(SongRefinery x) {
         StringBuilder text = new StringBuilder();
-        for (int i = 0; i < x.filterCount(); i++) {
+        // The counts are asked for once: an object may be used for 512 calls alone.
+        int filters = x.filterCount();
+        for (int i = 0; i < filters; i++) {
             text.append(x.filterKind(i)).append(x.filterParameter(i)).append('>');
         }
         for (int song = 0; song < 4; song++) {
             text.append("|notes ").append(x.noteCount(song)).append(" samples ").append(x.songLength(song))
                 .append(" energy ").append(x.energy(song));
         }
-        for (int tank = 0; tank < x.tankCount(); tank++) {
+        int tanks = x.tankCount();
+        for (int tank = 0; tank < tanks; tank++) {
             text.append("|").append(tankAt(x, tank));
         }
         text.append("|").append(x.storedTotal()).append(' ').append(x.droppedTotal()).append(' ').append(x.drainedTotal());
@@ -21,8 +24,9 @@ final class Look {
 
     private static String tankAt(SongRefinery x, int tank) {
         StringBuilder text = new StringBuilder();
-        text.append(x.level(tank)).append('/').append(x.capacity(tank)).append('@').append(x.tuning(tank));
-        for (int age = 0; age < x.level(tank); age++) {
+        int level = x.level(tank);
+        text.append(level).append('/').append(x.capacity(tank)).append('@').append(x.tuning(tank));
+        for (int age = 0; age < level; age++) {
             text.append(' ').append(x.frameLoudness(tank, age));
         }
         return text.toString();
@@ -46,7 +50,8 @@ final class Look {
 
     static String samples(SongRefinery x, int song) {
         StringBuilder text = new StringBuilder();
-        for (int i = 0; i < x.songLength(song); i++) {
+        int length = x.songLength(song);
+        for (int i = 0; i < length; i++) {
             text.append(i == 0 ? "" : " ").append(x.sample(song, i));
         }
         return text.toString();
@@ -54,7 +59,8 @@ final class Look {
 
     static String samplesByFilter(SongRefinery x, int song) {
         StringBuilder text = new StringBuilder();
-        for (int i = 0; i < x.songLength(song); i++) {
+        int length = x.songLength(song);
+        for (int i = 0; i < length; i++) {
             text.append(i == 0 ? "" : " ").append(x.sampleByFilter(song, i));
         }
         return text.toString();
@@ -62,7 +68,8 @@ final class Look {
 
     static String rawSamples(SongRefinery x, int song) {
         StringBuilder text = new StringBuilder();
-        for (int i = 0; i < x.songLength(song); i++) {
+        int length = x.songLength(song);
+        for (int i = 0; i < length; i++) {
             text.append(i == 0 ? "" : " ").append(x.rawSample(song, i));
         }
         return text.toString();

@@ -46,8 +46,9 @@ final class SongTests {
         int[][] wrong = {{1, 1, 1}, {21, 1, 1}, {2, 0, 1}, {2, 1000, 1}, {2, 1, 0}, {2, 1, 41}, {0, 1, 1}, {-2, 1, 1},
             {2, -1, 1}, {2, 1, -1}, {2, 1, Integer.MAX_VALUE}, {Integer.MIN_VALUE, 1, 1}};
         for (int[] note : wrong) {
-            Check.refused(IAE, "a wrong note", x, () -> x.addNote(0, note[0], note[1], note[2]));
-            Check.refused(IOOBE, "a wrong note of no song", x, () -> x.addNote(4, note[0], note[1], note[2]));
+            SongRefinery y = new SongRefinery();
+            Check.refused(IAE, "a wrong note", y, () -> y.addNote(0, note[0], note[1], note[2]));
+            Check.refused(IOOBE, "a wrong note of no song", y, () -> y.addNote(4, note[0], note[1], note[2]));
         }
         Check.refused(IOOBE, "a note of song -1", x, () -> x.addNote(-1, 2, 1, 1));
         Check.refused(IOOBE, "a note of song 4", x, () -> x.addNote(4, 2, 1, 1));
