@@ -184,6 +184,16 @@ final class FilterEdges {
             Check.due("the flip", x.removeFilter(0), 0);
             Check.due("the clip", x.removeFilter(0), 999);
         });
+        Check.test("4 removeFilter: the kinds behind it move up with their parameters", () -> {
+            SongRefinery x = new SongRefinery();
+            x.addFilter('g', 8);
+            x.addFilter('d', 7);
+            x.addFilter('f', 0);
+            x.addFilter('m', 6);
+            x.addFilter('s', 5);
+            x.removeFilter(1);
+            Check.due("chain", Look.chain(x), "g8>f>m6>s5");
+        });
         noPosition("4 removeFilter", (x, position) -> x.removeFilter(position));
     }
 

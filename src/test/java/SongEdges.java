@@ -133,6 +133,16 @@ final class SongEdges {
                 }
             }
         });
+        Check.test("9 addNote: a song that gets full touches no sample of the others", () -> {
+            SongRefinery x = new SongRefinery();
+            x.addNote(0, 20, 7, 1);
+            x.addNote(2, 20, 8, 1);
+            for (int i = 0; i < 4; i++) {
+                x.addNote(1, 2, 900, 40);
+            }
+            Check.due("the song before it", Look.rawSamples(x, 0), "7");
+            Check.due("the song behind it", Look.rawSamples(x, 2), "8");
+        });
         Check.test("9 addNote: 160 notes of one sample", () -> {
             SongRefinery x = new SongRefinery();
             for (int i = 1; i <= 160; i++) {
@@ -181,7 +191,33 @@ final class SongEdges {
         });
     }
 
+    private static void afterLonger(String method, OfSong of) {
+        Check.test(method + ": of a short song after a longer one was asked for", () -> {
+            SongRefinery x = withFullSong(0);
+            of.call(x, 0);
+            x.addNote(1, 2, 3, 2);
+            Check.due("energy", x.energy(1), 18);
+            of.call(x, 0);
+            Check.due("peak", x.peak(1), 3);
+            of.call(x, 0);
+            Check.due("signChanges", x.signChanges(1), 1);
+            of.call(x, 0);
+            Check.due("meanLevel", x.meanLevel(1), 3.0);
+        });
+    }
+
     private static void counting() {
+        afterLonger("17 peak, 18 energy, 19 signChanges, 44 meanLevel", (x, song) -> x.peak(song));
+        Check.test("10 removeNote: after an undo the lengths of the notes are those before", () -> {
+            SongRefinery x = new SongRefinery();
+            x.addNote(0, 2, 5, 3);
+            x.addNote(0, 2, 5, 7);
+            x.removeNote(0);
+            x.addNote(0, 2, 5, 9);
+            x.undo();
+            x.undo();
+            Check.due("removeNote", x.removeNote(0), 3);
+        });
         Check.test("11 noteCount: 0 without notes", () -> Check.due("noteCount", new SongRefinery().noteCount(3), 0));
         Check.test("12 songLength: 0 without notes", () -> Check.due("songLength", new SongRefinery().songLength(3), 0));
         Check.test("12 songLength: from 1 to 160", () -> {

@@ -5,6 +5,7 @@ final class TankEdges {
 
     static void all() {
         adding();
+        addingAgain();
         tankNumbers();
         tuning();
         accepting();
@@ -78,6 +79,20 @@ final class TankEdges {
             x.addTank(4);
             Check.due("tanks", tanks(x), "1/4@5 4, 0/4");
             Check.due("tuning", x.tuning(1), 9999);
+        });
+    }
+
+    private static void addingAgain() {
+        Check.test("21 addTank: an empty tank, also in the place of one with frames that was undone", () -> {
+            SongRefinery x = withTanks(4);
+            frames(x, 0, 5, 6);
+            x.setTuning(0, 70);
+            x.pour(0);
+            for (int i = 0; i < 5; i++) {
+                x.undo();
+            }
+            Check.due("addTank", x.addTank(3), 0);
+            Check.due("tanks", tanks(x), "0/3");
         });
     }
 
