@@ -4,6 +4,7 @@ public final class AllTests {
 
     public static void main(String[] arguments) {
         FaceTests.all();
+        ReadmeTests.all();
         FilterTests.all();
         SongTests.all();
         TankTests.all();
